@@ -1,0 +1,58 @@
+/** Counts the answers that are not as due, and prints them. */
+final class Due {
+    interface Deed {
+        void happen();
+    }
+
+    private static int asked = 0;
+    private static int wrong = 0;
+
+    private Due() {
+    }
+
+    static void is(String call, long want, long got) {
+        asked++;
+        if (got != want) {
+            wrong++;
+            System.out.println(call + " answered " + got + ", due is " + want);
+        }
+    }
+
+    static void yes(String call, boolean got) {
+        is(call, 1, got ? 1 : 0);
+    }
+
+    static void no(String call, boolean got) {
+        is(call, 0, got ? 1 : 0);
+    }
+
+    static void refusesArgument(String call, Deed deed) {
+        throwsExactly(call, IllegalArgumentException.class, deed);
+    }
+
+    static void refusesState(String call, Deed deed) {
+        throwsExactly(call, IllegalStateException.class, deed);
+    }
+
+    private static void throwsExactly(String call, Class<? extends RuntimeException> due, Deed deed) {
+        asked++;
+        Class<?> got = null;
+        try {
+            deed.happen();
+        } catch (RuntimeException thrown) {
+            got = thrown.getClass();
+        }
+        if (got != due) {
+            wrong++;
+            System.out.println(call + " threw " + got + ", due is " + due);
+        }
+    }
+
+    /** Ends the test with exit code 1 if an answer was wrong. */
+    static void close() {
+        System.out.println(asked + " answers asked for, " + wrong + " not as due");
+        if (wrong != 0 || asked == 0) {
+            System.exit(1);
+        }
+    }
+}
