@@ -359,6 +359,12 @@ public final class PromiseTest {
         for (int bad : NO_ARGUMENT) {
             Due.is("round(" + bad + ")", 0, x.round(bad));
         }
+        AttackBench all = bench(3);
+        Due.is("round of 0 at first", 1, all.round(0));
+        all.attack(1, 0, true);
+        Due.is("round of 0 when it is attacked", 0, all.round(0));
+        all.attack(2, 1, true);
+        Due.is("round of 0 when it is defended", 2, all.round(0));
         AttackBench line = bench(12, 0, 1, 1, 2, 2, 3, 3, 4, 4, 5, 5, 6, 6, 7, 7, 8, 8, 9, 9, 10, 10, 11);
         for (int a = 0; a < 12; a++) {
             Due.is("round in a line of 12", a % 2 == 0 ? a / 2 + 1 : 0, line.round(a));
@@ -371,6 +377,7 @@ public final class PromiseTest {
         Due.is("ideal is admissible", 0, bench(4, 0, 1, 1, 0, 0, 2, 1, 2, 2, 3).ideal());
         // 4 needs no help; with it the common part has 3 and 4, of which 4 alone is admissible.
         Due.is("ideal in part", set(4), bench(5, 0, 1, 1, 0, 0, 2, 1, 2, 2, 3).ideal());
+        Due.is("ideal without attacks", 7, bench(3).ideal());
         Due.is("ideal of a line", set(0, 2), bench(3, 0, 1, 1, 2).ideal());
         Due.is("ideal of a circle of three", 0, bench(3, 0, 1, 1, 2, 2, 0).ideal());
         AttackBench x = bench(2, 0, 1, 1, 0, 1, 1);
@@ -559,6 +566,10 @@ public final class PromiseTest {
             Due.refusesArgument("holds of argument " + bad, () -> x.holds(0, bad, false));
         }
         Due.refusesArgument("holds of the next number", () -> none.holds(STABLE, 3, true));
+        for (int kind = 0; kind < 5; kind++) {
+            Due.yes("holds in one that has all", bench(2).holds(kind, 1, false));
+        }
+        Due.no("holds in all, with the empty one", bench(2).holds(ADMISSIBLE, 1, true));
     }
 
     private static void movesAre(String name, AttackBench x, int[] said, int[] answered) {
@@ -583,6 +594,9 @@ public final class PromiseTest {
         movesAre("about 4", x, new int[] {4, 3, 2, 1, 0, 5, 6}, new int[] {NONE, 0, 1, 2, 3, 0, 5});
         Due.is("dialogue about one that is out", 0, x.dialogue(3));
         Due.is("dialogue about one that is open", 0, x.dialogue(7));
+        AttackBench ends = bench(12, 0, 5, 11, 5, 3, 0, 4, 11);
+        Due.is("dialogue against 0 and 11", 5, ends.dialogue(5));
+        movesAre("against 0 and 11", ends, new int[] {5, 0, 3, 11, 4}, new int[] {NONE, 0, 1, 0, 3});
         for (int bad : NO_ARGUMENT) {
             Due.refusesArgument("dialogue(" + bad + ")", () -> x.dialogue(bad));
         }
@@ -679,6 +693,9 @@ public final class PromiseTest {
         circlesAre("without attacks", bench(3), 0, 1, 2);
         circlesAre("on itself", bench(2, 0, 0), 0, 1);
         circlesAre("a circle of three", bench(3, 0, 1, 1, 2, 2, 0), 0, 0, 0);
+        circlesAre("a circle of three, the other way", bench(3, 2, 1, 1, 0, 0, 2), 0, 0, 0);
+        circlesAre("a circle through 0", bench(4, 3, 0, 0, 1, 1, 2, 2, 3), 0, 0, 0, 0);
+        circlesAre("two that touch in 0", bench(3, 0, 1, 1, 0, 0, 2, 2, 0), 0, 0, 0);
         circlesAre("two circles", bench(4, 0, 2, 2, 0, 1, 3, 3, 1), 0, 1, 0, 1);
         circlesAre("two that touch", bench(3, 0, 1, 1, 0, 1, 2, 2, 1), 0, 0, 0);
         AttackBench x = bench(3, 0, 1, 1, 2, 2, 0);

@@ -1,0 +1,134 @@
+import java.lang.reflect.Constructor;
+import java.lang.reflect.Field;
+import java.lang.reflect.Member;
+import java.lang.reflect.Method;
+import java.lang.reflect.Modifier;
+import java.nio.file.Files;
+import java.nio.file.Path;
+import java.util.ArrayList;
+import java.util.Arrays;
+import java.util.HashSet;
+import java.util.List;
+import java.util.Set;
+import java.util.TreeSet;
+
+/** The public face is the document's and no more, and the source keeps off what the language rules out. */
+public final class FaceTest {
+    private static final List<String> FACE = List.of(
+        "public int AttackBench.arguments()",
+        "public boolean AttackBench.attack(int,int,boolean)",
+        "public int AttackBench.attackedBy(int)",
+        "public boolean AttackBench.attacks(int,int)",
+        "public int AttackBench.circle(int)",
+        "public int AttackBench.circles()",
+        "public int AttackBench.claim()",
+        "public int AttackBench.count(int) throws java.lang.IllegalArgumentException",
+        "public int AttackBench.defendedBy(int)",
+        "public int AttackBench.dialogue(int) throws java.lang.IllegalArgumentException",
+        "public int AttackBench.grounded()",
+        "public boolean AttackBench.holds(int,int,boolean) throws java.lang.IllegalArgumentException",
+        "public int AttackBench.ideal()",
+        "public boolean AttackBench.is(int,int)",
+        "public boolean AttackBench.isFree(int)",
+        "public int AttackBench.joint(int,int,int)",
+        "public int AttackBench.label(int) throws java.lang.IllegalArgumentException,"
+            + "java.lang.IllegalStateException",
+        "public int AttackBench.move(int,int)",
+        "public int AttackBench.next() throws java.lang.IllegalStateException",
+        "public int AttackBench.round(int)",
+        "public void AttackBench.start(int) throws java.lang.IllegalArgumentException",
+        "public int AttackBench.support(int,int)");
+
+    private static final String[] RULED_OUT = {
+        "import ", "package ", "->", "::", "synchronized", "assert ", "finally", "try ", "catch ",
+        "System.", "Thread", "Random", "Object", "Exact("};
+
+    private FaceTest() {
+    }
+
+    public static void main(String[] args) throws Exception {
+        methods();
+        fieldsAndConstructors();
+        nestedClasses();
+        if (args.length == 1) {
+            source(Files.readString(Path.of(args[0])));
+        }
+        Due.close();
+    }
+
+    private static void methods() {
+        Set<String> seen = new TreeSet<>();
+        Set<String> publicNames = new HashSet<>();
+        for (Method m : AttackBench.class.getDeclaredMethods()) {
+            if (Modifier.isPublic(m.getModifiers())) {
+                seen.add(m.toString());
+                publicNames.add(m.getName());
+            }
+        }
+        Due.yes("the face is " + seen, seen.equals(new TreeSet<>(FACE)));
+        for (Class<?> c : classes()) {
+            for (Method m : c.getDeclaredMethods()) {
+                boolean face = c == AttackBench.class && Modifier.isPublic(m.getModifiers());
+                Due.yes(m + " has a name of its own", face || !publicNames.contains(m.getName()));
+                Due.yes(m + " takes seven at most", m.getParameterCount() <= 7);
+            }
+        }
+    }
+
+    private static void fieldsAndConstructors() {
+        List<Member> open = new ArrayList<>();
+        for (Field f : AttackBench.class.getDeclaredFields()) {
+            if (!Modifier.isPrivate(f.getModifiers())) {
+                open.add(f);
+            }
+        }
+        for (Method m : AttackBench.class.getDeclaredMethods()) {
+            int mods = m.getModifiers();
+            if (!Modifier.isPublic(mods) && !Modifier.isPrivate(mods)) {
+                open.add(m);
+            }
+        }
+        Due.is("members of no more than private sight but the face: " + open, 1, open.size());
+        Due.yes("NONE is that one", open.size() == 1 && open.get(0).getName().equals("NONE"));
+        Constructor<?>[] constructors = AttackBench.class.getDeclaredConstructors();
+        Due.is("constructors", 1, constructors.length);
+        Due.yes("it is public", Modifier.isPublic(constructors[0].getModifiers()));
+        Due.yes("the class is public and final",
+            (AttackBench.class.getModifiers() & (Modifier.PUBLIC | Modifier.FINAL))
+                == (Modifier.PUBLIC | Modifier.FINAL));
+    }
+
+    private static void nestedClasses() {
+        Due.yes("at most twelve classes", classes().size() <= 12);
+        for (Class<?> c : classes()) {
+            int ownFields = 0;
+            for (Field f : c.getDeclaredFields()) {
+                if (Modifier.isStatic(f.getModifiers())) {
+                    Due.yes(f + " is a constant", Modifier.isFinal(f.getModifiers()));
+                } else {
+                    ownFields++;
+                }
+            }
+            Due.yes(c + " has some twenty fields at most", ownFields <= 20);
+            Due.yes(c + " is static", c == AttackBench.class || Modifier.isStatic(c.getModifiers()));
+        }
+    }
+
+    private static List<Class<?>> classes() {
+        List<Class<?>> all = new ArrayList<>(Arrays.asList(AttackBench.class.getDeclaredClasses()));
+        all.add(AttackBench.class);
+        return all;
+    }
+
+    private static void source(String text) {
+        String code = text.replaceAll("(?s)/\\*.*?\\*/", "").replaceAll("//[^\n]*", "");
+        for (String word : RULED_OUT) {
+            Due.no("the source has '" + word + "'", code.contains(word));
+        }
+        for (char c : text.toCharArray()) {
+            if (c > 255) {
+                Due.no("the source has the character " + (int) c, true);
+            }
+        }
+    }
+}
