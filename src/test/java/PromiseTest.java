@@ -293,7 +293,7 @@ public final class PromiseTest {
         AttackBench same = bench(3, 0, 1, 1, 0, 2, 2);
         kindIs("same range", same, STAGE, set(0), set(1));
         kindIs("same range", same, STABLE);
-        // Ranges {0, 1, 2} and {1, 2, 3}: neither is in the other; {2} has the range {2, 3} alone.
+        // 0 and 3 attack themselves; the ranges {1, 2, 3} and {0, 2, 3} are not in one another.
         AttackBench two = bench(4, 0, 1, 0, 2, 1, 2, 1, 3, 2, 3, 3, 3, 2, 0, 0, 0);
         kindIs("ranges", two, STAGE, set(1), set(2));
         AttackBench self = bench(1, 0, 0);
@@ -605,7 +605,7 @@ public final class PromiseTest {
     }
 
     private static void dialogueChoice() {
-        // 0 attacks 1; 2 is of round 2; 3, 4 are of round 1; all three attack 5, which attacks 6.
+        // 3 and 4 are of round 1, 2 is of round 2, 0 is in no round: all attack 5, which attacks 6.
         AttackBench x = bench(8, 7, 1, 1, 2, 2, 5, 4, 5, 3, 5, 5, 6, 0, 0, 0, 5);
         Due.is("round of 2", 2, x.round(2));
         Due.is("dialogue by the least round", 3, x.dialogue(6));
