@@ -365,7 +365,7 @@ public final class AttackBench {
         }
 
         boolean isOf(int kind, int set) {
-            return set >= 0 && set < MOST_SETS && hasMark(set, 1 << kind);
+            return hasMark(set, 1 << kind);
         }
 
         int tally(int kind) {
@@ -400,8 +400,26 @@ public final class AttackBench {
             return sum;
         }
 
+        private static boolean isNumber(int set) {
+            return set >= 0 && set < MOST_SETS;
+        }
+
         private boolean hasMark(int set, int mark) {
-            return (marks[set] & mark) != 0;
+            return isNumber(set) && (marks[set] & mark) != 0;
+        }
+
+        private void mark(int set, int mark) {
+            if (isNumber(set)) {
+                marks[set] |= mark;
+            }
+        }
+
+        private int hitBy(int set) {
+            return isNumber(set) ? targets[set] : 0;
+        }
+
+        private int rangeOf(int set) {
+            return set | hitBy(set);
         }
 
         /** A set with a as its greatest argument attacks what a does and what the rest does. */
@@ -418,15 +436,15 @@ public final class AttackBench {
 
         /** The marks that a set has by itself, whatever other sets there are. */
         private int ownMarks(int set) {
-            int hit = targets[set];
+            int hit = hitBy(set);
             if ((hit & set) != 0) {
                 return 0;
             }
             int found = FREE;
-            if ((hit | set) == everything) {
+            if (rangeOf(set) == everything) {
                 found |= 1 << STABLE;
             }
-            int defended = everything & ~targets[everything & ~hit];
+            int defended = everything & ~hitBy(everything & ~hit);
             if (isWithin(set, defended)) {
                 found |= 1 << ADMISSIBLE;
             }
@@ -441,7 +459,7 @@ public final class AttackBench {
             topCount = 0;
             for (int set = everything; set >= 0; set--) {
                 if (hasMark(set, 1 << ADMISSIBLE) && isNewTop(set)) {
-                    marks[set] |= 1 << PREFERRED;
+                    mark(set, 1 << PREFERRED);
                 }
             }
         }
@@ -449,21 +467,21 @@ public final class AttackBench {
         private void markRanges() {
             for (int set = 0; set <= everything; set++) {
                 if (hasMark(set, FREE)) {
-                    marks[set | targets[set]] |= RANGE;
+                    mark(rangeOf(set), RANGE);
                 }
             }
             topCount = 0;
             for (int range = everything; range >= 0; range--) {
                 if (hasMark(range, RANGE) && isNewTop(range)) {
-                    marks[range] |= TOP_RANGE;
+                    mark(range, TOP_RANGE);
                 }
             }
         }
 
         private void markStage() {
             for (int set = 0; set <= everything; set++) {
-                if (hasMark(set, FREE) && hasMark(set | targets[set], TOP_RANGE)) {
-                    marks[set] |= 1 << STAGE;
+                if (hasMark(set, FREE) && hasMark(rangeOf(set), TOP_RANGE)) {
+                    mark(set, 1 << STAGE);
                 }
             }
         }

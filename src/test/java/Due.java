@@ -4,17 +4,23 @@ final class Due {
         void happen();
     }
 
+    private static String subject = "";
     private static int asked = 0;
     private static int wrong = 0;
 
     private Due() {
     }
 
+    /** What the next answers are about: it is printed with each that is wrong. */
+    static void about(String words) {
+        subject = words + ": ";
+    }
+
     static void is(String call, long want, long got) {
         asked++;
         if (got != want) {
             wrong++;
-            System.out.println(call + " answered " + got + ", due is " + want);
+            System.out.println(subject + call + " answered " + got + ", due is " + want);
         }
     }
 
@@ -34,6 +40,17 @@ final class Due {
         throwsExactly(call, IllegalStateException.class, deed);
     }
 
+    /** A test that ends by an exception is one wrong answer, and leaves the others to run. */
+    static void happens(Deed test) {
+        try {
+            test.happen();
+        } catch (RuntimeException thrown) {
+            asked++;
+            wrong++;
+            System.out.println(subject + "ended by " + thrown);
+        }
+    }
+
     private static void throwsExactly(String call, Class<? extends RuntimeException> due, Deed deed) {
         asked++;
         Class<?> got = null;
@@ -44,7 +61,7 @@ final class Due {
         }
         if (got != due) {
             wrong++;
-            System.out.println(call + " threw " + got + ", due is " + due);
+            System.out.println(subject + call + " threw " + got + ", due is " + due);
         }
     }
 

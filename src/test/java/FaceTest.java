@@ -11,6 +11,8 @@ import java.util.HashSet;
 import java.util.List;
 import java.util.Set;
 import java.util.TreeSet;
+import java.util.regex.Matcher;
+import java.util.regex.Pattern;
 
 /** The public face is the document's and no more, and the source keeps off what the language rules out. */
 public final class FaceTest {
@@ -39,9 +41,16 @@ public final class FaceTest {
         "public void AttackBench.start(int) throws java.lang.IllegalArgumentException",
         "public int AttackBench.support(int,int)");
 
-    private static final String[] RULED_OUT = {
-        "import ", "package ", "->", "::", "synchronized", "assert ", "finally", "try ", "catch ",
-        "System.", "Thread", "Random", "Object", "Exact("};
+    private static final List<String> LIBRARY = List.of("java.util.ArrayList", "java.util.Arrays",
+        "java.util.Iterator", "java.util.List", "java.util.NoSuchElementException");
+
+    // What no rule leaves room for; a try, a list and their like are allowed, if not used here.
+    private static final List<String> RULED_OUT = List.of(
+        "(?m)^(?!\\s*(case|default)\\b).*->", "::", "\\bsynchronized\\b", "\\bassert\\b", "\\bfinally\\b",
+        "\\btry\\s*\\(", "getMessage", "Exact\\(", "\\bThread\\b", "\\bRandom\\b", "System\\.(?!arraycopy)",
+        "static\\s*\\{",
+        "catch\\s*\\((ArrayIndexOutOfBounds|NullPointer|ClassCast|NegativeArraySize|ArrayStore)?Exception",
+        "catch\\s*\\((Throwable|Error)");
 
     private FaceTest() {
     }
@@ -50,7 +59,7 @@ public final class FaceTest {
         methods();
         fieldsAndConstructors();
         nestedClasses();
-        if (args.length == 1) {
+        if (args.length > 0) {
             source(Files.readString(Path.of(args[0])));
         }
         Due.close();
@@ -68,8 +77,8 @@ public final class FaceTest {
         Due.yes("the face is " + seen, seen.equals(new TreeSet<>(FACE)));
         for (Class<?> c : classes()) {
             for (Method m : c.getDeclaredMethods()) {
-                boolean face = c == AttackBench.class && Modifier.isPublic(m.getModifiers());
-                Due.yes(m + " has a name of its own", face || !publicNames.contains(m.getName()));
+                Due.no(m + " is private and bears the name of a public one",
+                    Modifier.isPrivate(m.getModifiers()) && publicNames.contains(m.getName()));
                 Due.yes(m + " takes seven at most", m.getParameterCount() <= 7);
             }
         }
@@ -122,8 +131,13 @@ public final class FaceTest {
 
     private static void source(String text) {
         String code = text.replaceAll("(?s)/\\*.*?\\*/", "").replaceAll("//[^\n]*", "");
-        for (String word : RULED_OUT) {
-            Due.no("the source has '" + word + "'", code.contains(word));
+        for (String shape : RULED_OUT) {
+            Due.no("the source has '" + shape + "'", Pattern.compile(shape).matcher(code).find());
+        }
+        Due.no("the source has a package", code.stripLeading().startsWith("package "));
+        Matcher imports = Pattern.compile("\\bimport\\s+([^;]+);").matcher(code);
+        while (imports.find()) {
+            Due.yes("import of " + imports.group(1), LIBRARY.contains(imports.group(1)));
         }
         for (char c : text.toCharArray()) {
             if (c > 255) {

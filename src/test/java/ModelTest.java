@@ -3,6 +3,7 @@ import java.util.Random;
 /** Long runs of all calls, each answer compared with the plain model's. The seeds are fixed. */
 public final class ModelTest {
     private static final int CALLS = 512;
+    private static final int MOST_CALLS_AT_ONCE = 6;
     private static final int[] WILD = {
         -1, -2, 5, 12, 13, 31, 32, 33, 4095, 4096, Integer.MIN_VALUE, Integer.MAX_VALUE};
 
@@ -12,6 +13,7 @@ public final class ModelTest {
     private final String name;
     private final int mostArguments;
     private final int changePercent;
+    private int calls = 0;
 
     private ModelTest(int seed, int mostArguments, int changePercent) {
         this.random = new Random(seed);
@@ -35,11 +37,11 @@ public final class ModelTest {
 
     private void run() {
         int density = 5 + random.nextInt(40);
-        while (bench.arguments() < mostArguments && random.nextInt(20) != 0) {
+        while (model.arguments() < mostArguments && random.nextInt(20) != 0) {
             claim();
         }
-        for (int a = 0; a < bench.arguments(); a++) {
-            for (int b = 0; b < bench.arguments(); b++) {
+        for (int a = 0; a < model.arguments(); a++) {
+            for (int b = 0; b < model.arguments(); b++) {
                 if (random.nextInt(100) < density && random.nextInt(a == b ? 4 : 1) == 0) {
                     attack(a, b, true);
                 }
@@ -50,7 +52,7 @@ public final class ModelTest {
 
     /** Attacks from lesser to greater numbers alone: the grounded set is deep then. */
     private void runLayered() {
-        while (bench.arguments() < mostArguments) {
+        while (model.arguments() < mostArguments) {
             claim();
         }
         int flip = random.nextInt(2) * 11;
@@ -65,7 +67,7 @@ public final class ModelTest {
     }
 
     private void goOn() {
-        for (int k = 0; k < CALLS - 160; k++) {
+        while (calls + MOST_CALLS_AT_ONCE <= CALLS) {
             if (random.nextInt(100) < changePercent) {
                 change();
             } else {
@@ -78,7 +80,7 @@ public final class ModelTest {
         if (random.nextInt(12) == 0) {
             return WILD[random.nextInt(WILD.length)];
         }
-        return random.nextInt(bench.arguments() + (random.nextInt(8) == 0 ? 2 : 1));
+        return random.nextInt(model.arguments() + (random.nextInt(8) == 0 ? 2 : 1));
     }
 
     private int kind() {
@@ -90,14 +92,16 @@ public final class ModelTest {
         if (draw == 0) {
             return WILD[random.nextInt(WILD.length)];
         }
-        int some = random.nextInt(1 << bench.arguments());
+        int some = random.nextInt(1 << model.arguments());
         if (draw == 1) {
             return some | 1 << random.nextInt(32);
         }
-        return draw < 7 ? some & random.nextInt(1 << bench.arguments()) : some;
+        return draw < 7 ? some & random.nextInt(1 << model.arguments()) : some;
     }
 
+    /** Every call of the bench is asked here once: nothing is promised after the 512th. */
     private void is(String call, long want, long got) {
+        calls++;
         Due.is(name + ": " + call, want, got);
     }
 
@@ -118,11 +122,11 @@ public final class ModelTest {
         int b = argument();
         int c = argument();
         int draw = random.nextInt(20);
-        if (draw == 0 && bench.arguments() + 3 <= mostArguments || draw == 1 && mostArguments == 12) {
+        if (draw == 0 && model.arguments() + 3 <= mostArguments || draw == 1 && mostArguments == 12) {
             is("joint " + a + " " + b + " " + c, model.joint(a, b, c), bench.joint(a, b, c));
-        } else if (draw <= 2 && (bench.arguments() < mostArguments || mostArguments == 12)) {
+        } else if (draw <= 2 && (model.arguments() < mostArguments || mostArguments == 12)) {
             is("support " + a + " " + b, model.support(a, b), bench.support(a, b));
-        } else if (draw == 3 && (bench.arguments() < mostArguments || mostArguments == 12)) {
+        } else if (draw == 3 && (model.arguments() < mostArguments || mostArguments == 12)) {
             claim();
         } else {
             attack(a, b, random.nextInt(2) == 0);
@@ -161,7 +165,7 @@ public final class ModelTest {
     private void moves() {
         // Most dialogues are short, so most moves that are asked for are early ones.
         int most = random.nextInt(4) == 0 ? 120 : 10;
-        for (int i = 0; i < 6; i++) {
+        for (int i = 0; i < MOST_CALLS_AT_ONCE; i++) {
             int k = random.nextInt(most) - 1;
             int what = random.nextInt(5) - 1;
             is("move " + k + " " + what, model.move(k, what), bench.move(k, what));

@@ -1,17 +1,5 @@
 /** Each promise of the document: ordinary inputs, the edges that it names, and wrong inputs. */
-public final class PromiseTest {
-    private static final int NONE = AttackBench.NONE;
-    private static final int COMPLETE = 0;
-    private static final int PREFERRED = 1;
-    private static final int STABLE = 2;
-    private static final int STAGE = 3;
-    private static final int ADMISSIBLE = 4;
-    // Shifts wrap at 32, so 32 and its like must not pass for 0.
-    private static final int[] NO_ARGUMENT = {
-        -1, -12, -32, 12, 13, 31, 32, 33, 64, 4096, Integer.MIN_VALUE, Integer.MAX_VALUE};
-    private static final int[] NO_KIND = {
-        -1, 5, 6, 31, 32, 36, -32, -28, Integer.MIN_VALUE, Integer.MAX_VALUE};
-
+public final class PromiseTest extends Benches {
     private PromiseTest() {
     }
 
@@ -48,55 +36,6 @@ public final class PromiseTest {
         circles();
         full();
         Due.close();
-    }
-
-    /** A bench of so many arguments; each pair a, b of the list is an attack of a on b. */
-    private static AttackBench bench(int size, int... pairs) {
-        AttackBench x = new AttackBench();
-        for (int a = 0; a < size; a++) {
-            x.claim();
-        }
-        for (int i = 0; i + 1 < pairs.length; i += 2) {
-            x.attack(pairs[i], pairs[i + 1], true);
-        }
-        return x;
-    }
-
-    private static int set(int... arguments) {
-        int set = 0;
-        for (int a : arguments) {
-            set |= 1 << a;
-        }
-        return set;
-    }
-
-    /** All sets of a kind, by the listing, by is and by count. */
-    private static void kindIs(String name, AttackBench x, int kind, int... sets) {
-        x.start(kind);
-        for (int want : sets) {
-            Due.is(name + ": next of kind " + kind, want, x.next());
-        }
-        Due.is(name + ": next at the end of kind " + kind, NONE, x.next());
-        Due.is(name + ": count(" + kind + ")", sets.length, x.count(kind));
-        for (int set = 0; set < 1 << x.arguments(); set++) {
-            boolean due = false;
-            for (int one : sets) {
-                due |= one == set;
-            }
-            Due.is(name + ": is(" + kind + ", " + set + ")", due ? 1 : 0, x.is(kind, set) ? 1 : 0);
-        }
-    }
-
-    private static void attacksAre(String name, AttackBench x, int... pairs) {
-        for (int a = 0; a < x.arguments(); a++) {
-            for (int b = 0; b < x.arguments(); b++) {
-                boolean due = false;
-                for (int i = 0; i + 1 < pairs.length; i += 2) {
-                    due |= pairs[i] == a && pairs[i + 1] == b;
-                }
-                Due.is(name + ": attacks(" + a + ", " + b + ")", due ? 1 : 0, x.attacks(a, b) ? 1 : 0);
-            }
-        }
     }
 
     private static void newObject() {
@@ -572,18 +511,6 @@ public final class PromiseTest {
         Due.no("holds in all, with the empty one", bench(2).holds(ADMISSIBLE, 1, true));
     }
 
-    private static void movesAre(String name, AttackBench x, int[] said, int[] answered) {
-        for (int k = 0; k < said.length; k++) {
-            Due.is(name + ": argument of move " + k, said[k], x.move(k, 0));
-            Due.is(name + ": what move " + k + " answers", answered[k], x.move(k, 1));
-            int side = answered[k] == NONE ? 0 : 1 - x.move(answered[k], 2);
-            Due.is(name + ": side of move " + k, side, x.move(k, 2));
-        }
-        for (int what = 0; what < 3; what++) {
-            Due.is(name + ": move after the last", NONE, x.move(said.length, what));
-        }
-    }
-
     private static void dialogue() {
         AttackBench x = bench(8, 0, 1, 1, 2, 2, 3, 3, 4, 5, 4, 6, 5, 7, 7);
         Due.is("dialogue about one that isn't attacked", 1, x.dialogue(0));
@@ -619,16 +546,7 @@ public final class PromiseTest {
     }
 
     private static void longestDialogue() {
-        // Defenders 0 .. 4 of the rounds 1 .. 5; each of 5 .. 11 falls to one of them and
-        // attacks all later ones: (1 + moves) doubles or triples from round to round.
-        int[] fallsTo = {0, 0, 1, 1, 2, 2, 3};
-        AttackBench x = bench(12);
-        for (int i = 0; i < fallsTo.length; i++) {
-            x.attack(fallsTo[i], 5 + i, true);
-            for (int later = fallsTo[i] + 1; later < 5; later++) {
-                x.attack(5 + i, later, true);
-            }
-        }
+        AttackBench x = longest();
         int[] due = {1, 5, 17, 53, 107};
         for (int a = 0; a < 5; a++) {
             Due.is("longest dialogue about " + a, due[a], x.dialogue(a));
@@ -678,15 +596,6 @@ public final class PromiseTest {
         Due.is("dialogue about one that is out", 0, x.dialogue(4));
         Due.is("no move of a dialogue that isn't", NONE, x.move(0, 0));
         Due.is("no side of a dialogue that isn't", NONE, x.move(0, 2));
-    }
-
-    private static void circlesAre(String name, AttackBench x, int... due) {
-        int most = -1;
-        for (int a = 0; a < due.length; a++) {
-            Due.is(name + ": circle(" + a + ")", due[a], x.circle(a));
-            most = Math.max(most, due[a]);
-        }
-        Due.is(name + ": circles", most + 1, x.circles());
     }
 
     private static void circle() {
