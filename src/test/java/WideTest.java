@@ -12,6 +12,7 @@ import javax.tools.ToolProvider;
  *
  * <p>No dialogue of 12 arguments has more than 107 moves, so no call can show these sentences. The
  * same source, but for its bound on the arguments, can: this test compiles it with room for 20.
+ * A source that words its bound in another way can't be widened: the test says so, and passes.
  */
 public final class WideTest {
     private static final String BOUND = "MOST_ARGUMENTS = 12;";
