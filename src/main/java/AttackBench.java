@@ -736,12 +736,16 @@ public final class AttackBench {
 
         private int around(int a, int count) {
             int ring = 0;
-            for (int b = 0; b < count && b < MOST_ARGUMENTS; b++) {
-                if (isIn(b, reach[a]) && isIn(a, reach[b])) {
+            for (int b = 0; b < count; b++) {
+                if (comesTo(a, b) && comesTo(b, a)) {
                     ring |= 1 << b;
                 }
             }
             return ring;
+        }
+
+        private boolean comesTo(int a, int b) {
+            return a >= 0 && a < MOST_ARGUMENTS && isIn(b, reach[a]);
         }
 
         private void number(int ring) {

@@ -62,6 +62,9 @@ public final class FaceTest {
         if (args.length > 0) {
             source(Files.readString(Path.of(args[0])));
         }
+        if (args.length > 1) {
+            words(Files.readString(Path.of(args[0])), Files.readString(Path.of(args[1])));
+        }
         Due.close();
     }
 
@@ -127,6 +130,24 @@ public final class FaceTest {
         List<Class<?>> all = new ArrayList<>(Arrays.asList(AttackBench.class.getDeclaredClasses()));
         all.add(AttackBench.class);
         return all;
+    }
+
+    /** The document's code block, line by line, with the names of the parameters and what is thrown. */
+    private static void words(String source, String document) {
+        Matcher block = Pattern.compile("(?s)```java\n(.*?)```").matcher(document);
+        boolean found = block.find();
+        Due.yes("the document has the public face", found);
+        int members = 0;
+        for (String line : found ? block.group(1).split("\n") : new String[0]) {
+            String member = line.strip();
+            if (member.endsWith(";")) {
+                String head = member.substring(0, member.length() - 1);
+                members++;
+                Due.yes("the source has '" + head + "'",
+                    source.contains("\n    " + head + " {\n") || source.contains("\n    " + member + "\n"));
+            }
+        }
+        Due.is("members of the face, with the constructor and NONE", FACE.size() + 2, members);
     }
 
     private static void source(String text) {

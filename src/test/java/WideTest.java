@@ -1,11 +1,6 @@
-import java.io.IOException;
 import java.lang.reflect.Method;
-import java.net.URL;
-import java.net.URLClassLoader;
 import java.nio.file.Files;
 import java.nio.file.Path;
-import java.util.stream.Stream;
-import javax.tools.ToolProvider;
 
 /**
  * Promise 20, 'NONE if there would be more than 500', and promise 21, 'none, if that was 0 or NONE'.
@@ -15,6 +10,7 @@ import javax.tools.ToolProvider;
  * A source that words its bound in another way can't be widened: the test says so, and passes.
  */
 public final class WideTest {
+    private static final String CLASS = "AttackBench";
     private static final String BOUND = "MOST_ARGUMENTS = 12;";
     private static final String WIDE_BOUND = "MOST_ARGUMENTS = 20;";
     private static final int NONE = -1;
@@ -36,33 +32,10 @@ public final class WideTest {
             System.out.println("the source has no '" + BOUND + "' that could be widened: nothing was tested");
             return;
         }
-        Path folder = Files.createTempDirectory("wide");
-        try {
-            compile(source.replace(BOUND, WIDE_BOUND), folder);
-            URL[] classes = {folder.toUri().toURL()};
-            try (URLClassLoader loader = new URLClassLoader(classes, ClassLoader.getPlatformClassLoader())) {
-                new WideTest(loader.loadClass("AttackBench")).run();
-            }
-        } finally {
-            remove(folder);
+        try (Compiled wide = Compiled.of(CLASS, source.replace(BOUND, WIDE_BOUND))) {
+            new WideTest(wide.get(CLASS)).run();
         }
         Due.close();
-    }
-
-    private static void compile(String source, Path folder) throws IOException {
-        Path file = Files.writeString(folder.resolve("AttackBench.java"), source);
-        int failed = ToolProvider.getSystemJavaCompiler()
-            .run(null, null, null, "-encoding", "UTF-8", "-d", folder.toString(), file.toString());
-        Due.is("compiling the wide source", 0, failed);
-    }
-
-    private static void remove(Path folder) throws IOException {
-        try (Stream<Path> files = Files.list(folder)) {
-            for (Path file : files.toList()) {
-                Files.delete(file);
-            }
-        }
-        Files.delete(folder);
     }
 
     private void run() throws ReflectiveOperationException {
